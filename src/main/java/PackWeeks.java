@@ -35,14 +35,16 @@ public final class PackWeeks {
     private static final int LAST_SEED = 9999;
     private static final int MOST_MONTH_STEPS = 100;
 
-    private static final int SHIP = 0;
-    private static final int HUT = 1;
-    private static final int BEAR = 2;
-    private static final int NORTH = 0;
-    private static final int EAST = 1;
-    private static final int SOUTH = 2;
-    private static final int WEST = 3;
-    private static final int STILL = 4;
+    private static final int KIND_SHIP = 0;
+    private static final int KIND_HUT = 1;
+    private static final int KIND_BEAR = 2;
+    private static final int KIND_CAIRN = 3;
+
+    private static final int FLOW_NORTH = 0;
+    private static final int FLOW_EAST = 1;
+    private static final int FLOW_SOUTH = 2;
+    private static final int FLOW_WEST = 3;
+    private static final int FLOW_STILL = 4;
 
     private static final int DRIFT_LINE = 0;
     private static final int HAUL_LINE = 1;
@@ -539,15 +541,15 @@ public final class PackWeeks {
         HAUL("haul", GROUP_PLAIN, 0),
         LEND("lend", GROUP_PLAIN, 0),
         HOME("home", GROUP_PLAIN, 0),
-        TO_NORTH("north", GROUP_FLOW, 0),
-        TO_EAST("east", GROUP_FLOW, 1),
-        TO_SOUTH("south", GROUP_FLOW, 2),
-        TO_WEST("west", GROUP_FLOW, 3),
-        STAYS("still", GROUP_FLOW, 4),
-        SHIPS("ship", GROUP_KIND, 0),
-        HUTS("hut", GROUP_KIND, 1),
-        BEARS("bear", GROUP_KIND, 2),
-        CAIRNS("cairn", GROUP_KIND, 3),
+        NORTH("north", GROUP_FLOW, FLOW_NORTH),
+        EAST("east", GROUP_FLOW, FLOW_EAST),
+        SOUTH("south", GROUP_FLOW, FLOW_SOUTH),
+        WEST("west", GROUP_FLOW, FLOW_WEST),
+        STILL("still", GROUP_FLOW, FLOW_STILL),
+        SHIP("ship", GROUP_KIND, KIND_SHIP),
+        HUT("hut", GROUP_KIND, KIND_HUT),
+        BEAR("bear", GROUP_KIND, KIND_BEAR),
+        CAIRN("cairn", GROUP_KIND, KIND_CAIRN),
         NOT("not", GROUP_PLAIN, 0),
         AND("and", GROUP_PLAIN, 0),
         OR("or", GROUP_PLAIN, 0),
@@ -899,7 +901,7 @@ public final class PackWeeks {
         final Law eat = new Law();
         final Law look = new Law();
         final Law crack = new Law();
-        private final long[] flowing = new long[STILL + 1];
+        private final long[] flowing = new long[FLOW_STILL + 1];
         private final int[][] jumps = new int[JUMPS][PLACES];
         private long grid;
 
@@ -913,7 +915,7 @@ public final class PackWeeks {
             down = 2;
             pace = 2;
             for (int i = 0; i < PLACES; i++) {
-                flows[i] = STILL;
+                flows[i] = FLOW_STILL;
             }
             things.clear();
             leads.clear();
@@ -932,7 +934,7 @@ public final class PackWeeks {
         /** Makes what follows of the grid and its FLOWS, once all is told. */
         void settle() {
             grid = 0;
-            for (int i = 0; i <= STILL; i++) {
+            for (int i = 0; i <= FLOW_STILL; i++) {
                 flowing[i] = 0;
             }
             for (int place = 0; place < PLACES; place++) {
@@ -940,7 +942,7 @@ public final class PackWeeks {
                 jumps[0][place] = next[place];
                 if (isPlace(overOf(place), downOf(place))) {
                     grid |= bit(place);
-                    flowing[next[place] == place ? STILL : flows[place]] |= bit(place);
+                    flowing[next[place] == place ? FLOW_STILL : flows[place]] |= bit(place);
                 }
             }
             for (int i = 1; i < JUMPS; i++) {
@@ -956,8 +958,8 @@ public final class PackWeeks {
 
         /** The PLACE one to the north .. west, or the same one at the grid's edge. */
         int neighbour(int place, int way) {
-            int x = overOf(place) + (way == EAST ? 1 : way == WEST ? -1 : 0);
-            int y = downOf(place) + (way == SOUTH ? 1 : way == NORTH ? -1 : 0);
+            int x = overOf(place) + (way == FLOW_EAST ? 1 : way == FLOW_WEST ? -1 : 0);
+            int y = downOf(place) + (way == FLOW_SOUTH ? 1 : way == FLOW_NORTH ? -1 : 0);
             return isPlace(x, y) ? placeOf(x, y) : place;
         }
 
@@ -973,11 +975,11 @@ public final class PackWeeks {
         }
 
         long drifted(long places) {
-            return (places & flowing[NORTH]) >>> 8
-                    | (places & flowing[EAST]) << 1
-                    | (places & flowing[SOUTH]) << 8
-                    | (places & flowing[WEST]) >>> 1
-                    | places & flowing[STILL];
+            return (places & flowing[FLOW_NORTH]) >>> 8
+                    | (places & flowing[FLOW_EAST]) << 1
+                    | (places & flowing[FLOW_SOUTH]) << 8
+                    | (places & flowing[FLOW_WEST]) >>> 1
+                    | places & flowing[FLOW_STILL];
         }
 
         long openLeads(int step) {
@@ -1014,7 +1016,7 @@ public final class PackWeeks {
 
         int shipNamed(long name) {
             int thing = things.find(name);
-            return thing != NONE && things.first[thing] == SHIP ? thing : NONE;
+            return thing != NONE && things.first[thing] == KIND_SHIP ? thing : NONE;
         }
 
         int crewOf(int thing) {
@@ -1471,10 +1473,10 @@ public final class PackWeeks {
         long strayBears(Pack pack, long draws) {
             long g = draws;
             for (int i = 0; i < pack.things.size; i++) {
-                if (pack.things.first[i] == BEAR) {
+                if (pack.things.first[i] == KIND_BEAR) {
                     g = (g * 1103515245L + 12345L) % 2147483648L;
                     int draw = (int) (g / 65536L % 10L);
-                    if (draw < STILL) {
+                    if (draw < FLOW_STILL) {
                         places[i] = pack.neighbour(places[i], draw);
                     }
                 }
@@ -1485,7 +1487,7 @@ public final class PackWeeks {
         int bearVisits(Pack pack) {
             int visits = 0;
             for (int i = 0; i < pack.things.size; i++) {
-                if (pack.things.first[i] == BEAR && isInhabited(pack, places[i])) {
+                if (pack.things.first[i] == KIND_BEAR && isInhabited(pack, places[i])) {
                     visits++;
                 }
             }
@@ -1495,7 +1497,7 @@ public final class PackWeeks {
         private boolean isInhabited(Pack pack, int place) {
             for (int i = 0; i < pack.things.size; i++) {
                 int kind = pack.things.first[i];
-                if ((kind == SHIP || kind == HUT) && places[i] == place) {
+                if ((kind == KIND_SHIP || kind == KIND_HUT) && places[i] == place) {
                     return true;
                 }
             }
