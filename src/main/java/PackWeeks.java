@@ -1572,21 +1572,32 @@ public final class PackWeeks {
             return true;
         }
 
-        /** Things only ever drift, so each PLACE at the begin is followed to every sight and to now. */
-        long fitting(Pack pack, int step) {
+        /** What is SEEN alone rules a PLACE out: ahead of the first sight the hut may have been anywhere. */
+        long fitting(Pack pack, int now) {
+            int since = firstStep(now);
             long fit = 0;
-            for (int begin = 0; begin < PLACES; begin++) {
-                if (has(pack.gridPlaces(), begin) && agrees(pack, begin)) {
-                    fit |= bit(pack.placeAfter(begin, step));
+            for (int place = 0; place < PLACES; place++) {
+                if (has(pack.gridPlaces(), place) && agrees(pack, place, since)) {
+                    fit |= bit(pack.placeAfter(place, now - since));
                 }
             }
             return fit;
         }
 
-        private boolean agrees(Pack pack, int begin) {
+        /** The step of the first sight, or now if that is sooner. */
+        private int firstStep(int now) {
+            int first = now;
+            for (int i = 0; i < size; i++) {
+                first = Math.min(first, steps[i]);
+            }
+            return first;
+        }
+
+        /** Whether a hut that was at a PLACE at a step, no later than any sight, was where each tells. */
+        private boolean agrees(Pack pack, int place, int since) {
             for (int i = 0; i < size; i++) {
                 int from = pack.placeAfter(pack.things.second[things[i]], steps[i]);
-                if (bearing(from, pack.placeAfter(begin, steps[i])) != bearings[i]) {
+                if (bearing(from, pack.placeAfter(place, steps[i] - since)) != bearings[i]) {
                     return false;
                 }
             }

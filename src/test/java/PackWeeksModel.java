@@ -441,16 +441,24 @@ public final class PackWeeksModel {
             seen.add(new int[] {thing, world.step + steps, bearing});
             return true;
         }
+        /** Walks step by step from the first sight (or now) to the last one (or now). */
         long fits() {
+            int first = world.step, last = world.step;
+            for (int[] s : seen) { first = Math.min(first, s[1]); last = Math.max(last, s[1]); }
             long bits = 0;
             for (int x = 0; x < told.over; x++) for (int y = 0; y < told.down; y++) {
+                int[] hut = {x, y};
                 boolean ok = true;
-                for (int[] s : seen) {
-                    int[] thing = {told.things.get(s[0])[1], told.things.get(s[0])[2]};
-                    ok &= bearing(drifted(thing, s[1]), drifted(new int[] {x, y}, s[1])) == s[2];
+                long here = 0;
+                for (int t = first; t <= last; t++) {
+                    for (int[] s : seen) {
+                        int[] thing = {told.things.get(s[0])[1], told.things.get(s[0])[2]};
+                        if (s[1] == t) ok &= bearing(drifted(thing, t), hut) == s[2];
+                    }
+                    if (t == world.step) here = 1L << (hut[0] + 8 * hut[1]);
+                    hut = drifted(hut, 1);
                 }
-                int[] here = drifted(new int[] {x, y}, world.step);
-                if (ok) bits |= 1L << (here[0] + 8 * here[1]);
+                if (ok) bits |= here;
             }
             return bits;
         }

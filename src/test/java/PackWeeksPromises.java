@@ -711,15 +711,31 @@ public final class PackWeeksPromises {
         y.see(0, 1, 8);
         due("fits(): not yet at 3 then", y.fits(), 3L);
         y.drift(1);
-        due("fits() a step on", y.fits(), 6L);
+        due("fits() at the step of the sight: nothing tells where it was ahead of it", y.fits(), 7L);
         y.drift(1);
-        due("fits() two steps on", y.fits(), 12L);
+        due("fits() a step behind the sight", y.fits(), 14L);
         y.drift(5);
         due("fits() at the rim", y.fits(), 8L);
         y.see(0, 0, 1);
         due("fits() of an older and a newer sight", y.fits(), 8L);
         y.undo();
-        due("fits() when the drift is undone", y.fits(), 12L);
+        due("fits() when the drift is undone", y.fits(), 14L);
+        y.undo();
+        y.undo();
+        due("fits() ahead of both sights", y.fits(), 3L);
+        PackWeeks w = of("grid 4 2 ; drift 0 east 0 3 ;");
+        w.drift(1);
+        due("fits() of nothing SEEN, though nothing drifts to 0 0", w.fits(), 0xF0FL);
+        w.drift(30);
+        due("fits() of nothing SEEN", w.fits(), 0xF0FL);
+        // 0 0 and 1 1 both drift to 1 0: each sight alone lets it be there, both together do not
+        PackWeeks v = of("grid 2 2 ; drift 0 east 0 0 ; drift 1 north 1 1 ; thing a cairn at 0 1 ;");
+        v.see(0, 0, 1);
+        due("fits() of the one", v.fits(), 1L);
+        v.see(0, 0, 3);
+        due("fits() of two that can't both be", v.fits(), 0L);
+        v.drift(1);
+        due("fits() of two that could not both be", v.fits(), 0L);
         PackWeeks z = of("grid 8 8 ;");
         due("fits() of 64", z.fits(), -1L);
     }
