@@ -1,90 +1,5 @@
-import java.util.NoSuchElementException;
-
 /** For each promise of the document, answers worked out by hand: ordinary inputs, edges, wrong inputs. */
-public final class PackWeeksPromises {
-    private static final int MIN = Integer.MIN_VALUE;
-    private static final int MAX = Integer.MAX_VALUE;
-
-    private static int wrong = 0;
-    private static int asked = 0;
-    private static String promise = "";
-
-    private static void due(String call, long got, long want) {
-        asked++;
-        if (got != want) {
-            wrong++;
-            System.out.println(promise + ": " + call + " answered " + got + ", due is " + want);
-        }
-    }
-
-    private static void due(String call, boolean got, boolean want) {
-        due(call, got ? 1 : 0, want ? 1 : 0);
-    }
-
-    private interface Call {
-        int get();
-    }
-
-    private static void dueThrow(String call, Call c) {
-        asked++;
-        try {
-            int got = c.get();
-            wrong++;
-            System.out.println(promise + ": " + call + " answered " + got + ", due is NoSuchElementException");
-        } catch (NoSuchElementException e) {
-            return;
-        }
-    }
-
-    private static int feedText(PackWeeks x, String text) {
-        int length = x.count(12);
-        for (int i = 0; i < text.length(); i += 24) {
-            long[] v = new long[3];
-            for (int k = 0; k < 24; k++) {
-                v[k / 8] = v[k / 8] << 8 | (i + k < text.length() ? text.charAt(i + k) : 0);
-            }
-            length = x.feed(v[0], v[1], v[2]);
-        }
-        return length;
-    }
-
-    private static int pack(PackWeeks x, String text) {
-        feedText(x, text);
-        return x.pack();
-    }
-
-    private static int weeks(PackWeeks x, String text) {
-        feedText(x, text);
-        return x.weeks();
-    }
-
-    private static PackWeeks of(String text) {
-        PackWeeks x = new PackWeeks();
-        due("pack of '" + text + "'", pack(x, text), 0);
-        return x;
-    }
-
-    /** The text up to a | is right, what stands behind it is the wrong token. */
-    private static void fault(int kind, String text) {
-        int at = text.indexOf('|');
-        String whole = text.substring(0, at) + text.substring(at + 1);
-        due("pack of '" + whole + "'", pack(new PackWeeks(), whole), kind + 16 * at);
-    }
-
-    private static void weekFault(PackWeeks x, int kind, String text) {
-        int at = text.indexOf('|');
-        String whole = text.substring(0, at) + text.substring(at + 1);
-        due("weeks of '" + whole + "'", weeks(x, whole), kind + 16 * at);
-    }
-
-    private static String times(int n, String text) {
-        StringBuilder s = new StringBuilder();
-        for (int i = 0; i < n; i++) {
-            s.append(text.replace('#', (char) ('a' + i)));
-        }
-        return s.toString();
-    }
-
+public final class PackWeeksPromises extends Asking {
     /** Two ships in one row of a still grid, each with a crew. */
     private static final String SHIPS = "grid 8 8 ; thing fram ship at 0 0 ; thing hope ship at 2 0 ; "
             + "crew fram men 5 biscuit 40 ; crew hope men 3 biscuit 100 ; ";
@@ -93,7 +8,7 @@ public final class PackWeeksPromises {
             + "drift 2 west 1 2 ; drift 2 north 0 0 ; drift 1 north 0 0 ; ";
 
     private static void newObject() {
-        promise = "promise 1";
+        about = "promise 1";
         PackWeeks x = new PackWeeks();
         int[] counts = {2, 2, 0, 0, 0, 0, 0, 0, 0, 0, 0, 0, 0};
         for (int i = 0; i < counts.length; i++) {
@@ -107,7 +22,7 @@ public final class PackWeeksPromises {
     }
 
     private static void feed() {
-        promise = "promise 2";
+        about = "promise 2";
         PackWeeks x = new PackWeeks();
         due("feed of nothing", x.feed(0, 0, 0), 0);
         // 'a' 10 9 31 ' ' '~' 127 200: 9, 31, 127 and 200 are left out
@@ -134,7 +49,7 @@ public final class PackWeeksPromises {
     }
 
     private static void packTokens() {
-        promise = "promise 3, tokens";
+        about = "promise 3, tokens";
         due("pack of nothing", pack(new PackWeeks(), ""), 1);
         due("pack of blanks", pack(new PackWeeks(), "  \n"), 1 + 16 * 3);
         due("no blanks", pack(new PackWeeks(), "grid8 2;drift1east0 7;eat(1+2)*3;"), 0);
@@ -163,7 +78,7 @@ public final class PackWeeksPromises {
     }
 
     private static void packLines() {
-        promise = "promise 3, lines";
+        about = "promise 3, lines";
         fault(1, "|drift 0 east 0 0 ;");
         fault(4, "grid |1 2 ;");
         fault(4, "grid |9 2 ;");
@@ -222,7 +137,7 @@ public final class PackWeeksPromises {
     }
 
     private static void packLaws() {
-        promise = "promise 3, laws";
+        about = "promise 3, laws";
         String g = "grid 2 2 ; ";
         fault(1, g + "eat |;");
         fault(1, g + "eat |day ;");
@@ -252,7 +167,7 @@ public final class PackWeeksPromises {
     }
 
     private static void packStays() {
-        promise = "promise 3, a full TAPE";
+        about = "promise 3, a full TAPE";
         String sum = "grid 2 2;thing s ship at 0 0;crew s men 1 biscuit 99;eat 1";
         StringBuilder full = new StringBuilder(sum);
         while (full.length() < 998) {
@@ -262,7 +177,7 @@ public final class PackWeeksPromises {
         due("length", full.length(), 999);
         due("pack of 1000 signs", pack(new PackWeeks(), full + ";"), 0);
         due("pack of 1000 signs and one left out", pack(new PackWeeks(), full + " ;"), 1 + 16 * 1000);
-        promise = "promise 3, state";
+        about = "promise 3, state";
         PackWeeks x = of(SHIPS + "gap g opens 1 nips 1 ;");
         x.drift(2);
         x.see(0, 0, 3);
@@ -284,7 +199,7 @@ public final class PackWeeksPromises {
     }
 
     private static void weeksRead() {
-        promise = "promise 4";
+        about = "promise 4";
         PackWeeks x = of("grid 4 3 ; thing s ship at 0 0 ; thing t ship at 1 0 ; thing h hut at 1 1 ; crew s men 1 biscuit 5 ;");
         due("weeks of nothing", weeks(x, ""), 0);
         due("weeks", weeks(x, "drift 30 ; haul s 3 2 ; lend s 999 ; home s ;"), 0);
@@ -315,7 +230,7 @@ public final class PackWeeksPromises {
     }
 
     private static void flow() {
-        promise = "promise 5";
+        about = "promise 5";
         PackWeeks x = of("grid 4 5 ; drift 1 north 0 3 ; drift 1 east 1 2 ; drift 4 south 0 0 ; drift 4 west 3 3 ; drift 1 still 2 2 ;");
         int[] row = {0, 1, 4, 0};
         for (int i = 0; i < 4; i++) {
@@ -331,7 +246,7 @@ public final class PackWeeksPromises {
     }
 
     private static void open() {
-        promise = "promise 6";
+        about = "promise 6";
         PackWeeks x = of("grid 3 3 ; lead 1 2 round 4 from 3 for 2 ; lead 0 0 round 5 from 0 for 5 ; lead 2 2 round 5 from 2 for 0 ;");
         int[] turns = {1, 0, 0, 1, 1, 0, 0, 1};
         for (int t = 0; t < turns.length; t++) {
@@ -349,7 +264,7 @@ public final class PackWeeksPromises {
     }
 
     private static void thing() {
-        promise = "promise 7";
+        about = "promise 7";
         PackWeeks x = of("grid 4 3 ; drift 2 east 0 3 ; thing c cairn at 3 2 ; thing b bear at 1 2 ; thing s ship at 0 1 ; thing h hut at 0 0 ; crew s men 2 biscuit 3 ;");
         int[][] all = {{3, 3, 2, -1}, {2, 1, 2, -1}, {0, 0, 1, 0}, {1, 0, 0, -1}};
         for (int i = 0; i < 4; i++) {
@@ -368,7 +283,7 @@ public final class PackWeeksPromises {
     }
 
     private static void crew() {
-        promise = "promise 8";
+        about = "promise 8";
         PackWeeks x = of("grid 4 3 ; thing a hut at 0 0 ; thing s ship at 1 1 ; thing t ship at 2 1 ; crew t men 30 biscuit 9999 ; crew s men 7 biscuit 0 ;");
         int[][] all = {{2, 30, 9999, 0, 0, 2, 1, 0}, {1, 7, 0, 0, 0, 1, 1, 0}};
         for (int i = 0; i < 2; i++) {
@@ -392,7 +307,7 @@ public final class PackWeeksPromises {
     }
 
     private static void drift() {
-        promise = "promise 9";
+        about = "promise 9";
         PackWeeks x = of(ROUND + "thing s ship at 0 0 ; thing h hut at 1 1 ; crew s men 4 biscuit 30 ; eat crewmen + step * 2 + out * 100 ;");
         due("drift(0)", x.drift(0), -1);
         due("drift(31)", x.drift(31), -1);
@@ -424,7 +339,7 @@ public final class PackWeeksPromises {
     }
 
     private static void laws() {
-        promise = "terms, E";
+        about = "terms, E";
         String[][] all = {{"1 + 2 * 3", "7"}, {"( 1 + 2 ) * 3", "9"}, {"9 - 2 - 3", "4"}, {"not 0", "1"}, {"not 7 + 5", "5"},
             {"not not 7", "1"}, {"1 or 1 and 0", "0"}, {"0 and 0 or 1", "1"}, {"3 < 4", "1"}, {"4 < 4", "0"}, {"4 = 2 + 2", "1"},
             {"5 and 7", "1"}, {"0 or 7", "1"}, {"2 + 1 < 4 and 6", "1"}, {"2 * ( 3 < 4 ) + 1", "3"}, {"crewmen * 3", "12"},
@@ -437,7 +352,7 @@ public final class PackWeeksPromises {
     }
 
     private static void haul() {
-        promise = "promise 10";
+        about = "promise 10";
         PackWeeks x = of(SHIPS + "lead 1 0 round 2 from 0 for 1 ; lead 0 2 round 1 from 0 for 1 ;");
         due("haul to where it stands", x.haul(0, 0, 0), false);
         due("haul to an OPEN lead", x.haul(0, 1, 0), false);
@@ -478,7 +393,7 @@ public final class PackWeeksPromises {
     }
 
     private static void lend() {
-        promise = "promise 11";
+        about = "promise 11";
         PackWeeks x = of(SHIPS);
         due("lend, the sledge is in", x.lend(0, 1), -1);
         x.haul(0, 1, 0);
@@ -506,7 +421,7 @@ public final class PackWeeksPromises {
     }
 
     private static void home() {
-        promise = "promise 12";
+        about = "promise 12";
         PackWeeks x = of("grid 4 2 ; drift 0 east 0 3 ; thing s ship at 0 0 ; crew s men 1 biscuit 9 ;");
         due("home, it is in", x.home(0), false);
         due("home(1)", x.home(1), false);
@@ -525,7 +440,7 @@ public final class PackWeeksPromises {
     }
 
     private static void undo() {
-        promise = "promise 13";
+        about = "promise 13";
         PackWeeks x = of(SHIPS);
         due("undo of nothing", x.undo(), false);
         x.haul(0, 2, 0);
@@ -556,7 +471,7 @@ public final class PackWeeksPromises {
     }
 
     private static void judged() {
-        promise = "promise 14";
+        about = "promise 14";
         PackWeeks x = of(SHIPS + "lead 1 1 round 3 from 0 for 1 ;");
         due("judged(0) without lines", x.judged(0), -1);
         due("judged(1) without lines", x.judged(1), 0);
@@ -580,7 +495,7 @@ public final class PackWeeksPromises {
     }
 
     private static void where() {
-        promise = "promise 15";
+        about = "promise 15";
         PackWeeks x = of(ROUND + "thing s ship at 0 0 ; thing h hut at 1 1 ;");
         int[] round = {0, 1, 2, 10, 18, 17, 16, 8, 0};
         for (int k = 0; k < round.length; k++) {
@@ -598,7 +513,7 @@ public final class PackWeeksPromises {
     }
 
     private static void meet() {
-        promise = "promise 16";
+        about = "promise 16";
         PackWeeks x = of("grid 8 2 ; drift 0 east 0 7 ; thing a ship at 0 0 ; thing b hut at 5 0 ; thing c bear at 0 0 ; thing d cairn at 3 1 ;");
         due("meet(0, 1), at the rim", x.meet(0, 1), 7);
         due("meet(1, 0)", x.meet(1, 0), 7);
@@ -614,7 +529,7 @@ public final class PackWeeksPromises {
     }
 
     private static void reach() {
-        promise = "promise 17";
+        about = "promise 17";
         PackWeeks x = of("grid 8 2 ; thing a ship at 0 0 ; thing b hut at 7 0 ; thing c cairn at 0 0 ; thing d cairn at 2 0 ;");
         due("reach(0, 1, 0): 2, 4, 6 and 7", x.reach(0, 1, 0), 3);
         due("reach(0, 1, 5)", x.reach(0, 1, 5), 8);
@@ -655,7 +570,7 @@ public final class PackWeeksPromises {
     }
 
     private static void setout() {
-        promise = "promise 18";
+        about = "promise 18";
         PackWeeks x = of("grid 8 2 ; thing a ship at 0 0 ; thing b hut at 7 0 ; thing c hut at 6 0 ;");
         due("setout(0, 1)", x.setout(0, 1), 0);
         PackWeeks y = of("grid 3 2 ; thing a ship at 0 0 ; thing b hut at 2 0 ; lead 1 0 round 30 from 0 for 29 ; lead 1 1 round 1 from 0 for 1 ;");
@@ -672,7 +587,7 @@ public final class PackWeeksPromises {
     }
 
     private static void see() {
-        promise = "promise 19";
+        about = "promise 19";
         PackWeeks x = of("grid 3 3 ; thing a ship at 1 1 ;");
         due("see(1, 0, 0)", x.see(1, 0, 0), false);
         due("see(-1, 0, 0)", x.see(-1, 0, 0), false);
@@ -690,7 +605,7 @@ public final class PackWeeksPromises {
     }
 
     private static void fits() {
-        promise = "promise 20";
+        about = "promise 20";
         // the ship is at 2 2, place 18; rows are 8 bits apart
         long[] rose = {1L << 18, 1L << 2 | 1L << 10, 3L << 3 | 3L << 11, 3L << 19, 3L << 27 | 3L << 35,
             1L << 26 | 1L << 34, 3L << 24 | 3L << 32, 3L << 16, 3L | 3L << 8};
@@ -741,7 +656,7 @@ public final class PackWeeksPromises {
     }
 
     private static void tells() {
-        promise = "promise 21";
+        about = "promise 21";
         PackWeeks x = of("grid 3 2 ;");
         due("tells() without a thing", x.tells(), -1);
         PackWeeks y = of("grid 2 2 ; thing a ship at 0 0 ;");
@@ -763,7 +678,7 @@ public final class PackWeeksPromises {
     }
 
     private static void lasts() {
-        promise = "promise 22";
+        about = "promise 22";
         PackWeeks x = of(SHIPS);
         due("lasts(0)", x.lasts(0), 8);
         due("lasts(1)", x.lasts(1), 33);
@@ -782,7 +697,7 @@ public final class PackWeeksPromises {
     }
 
     private static void share() {
-        promise = "promise 23";
+        about = "promise 23";
         dueThrow("share() of no crew", () -> new PackWeeks().share());
         dueThrow("share() of one crew", () -> of("grid 2 2 ; thing s ship at 0 0 ; crew s men 2 biscuit 9 ;").share());
         // 140 for 8 a step: 17 steps, so 85 and 51
@@ -800,7 +715,7 @@ public final class PackWeeksPromises {
     }
 
     private static void through() {
-        promise = "promise 24";
+        about = "promise 24";
         PackWeeks x = of("grid 2 2 ; gap a opens 5 nips 3 ; gap b opens 10 nips 1 ;");
         due("through(2, 0), out", x.through(2, 0), 1000000);
         due("through(1, 0)", x.through(1, 0), 0);
@@ -830,7 +745,7 @@ public final class PackWeeksPromises {
     }
 
     private static void now() {
-        promise = "promise 25";
+        about = "promise 25";
         PackWeeks x = of("grid 2 2 ; gap a opens 5 nips 8 ; gap b opens 10 nips 0 ;");
         // going: 2 of ten; waiting: by eight of ten one wide, then 4 of ten
         due("now(0, 0, 1)", x.now(0, 0, 1), 1);
@@ -848,7 +763,7 @@ public final class PackWeeksPromises {
     }
 
     private static void lost() {
-        promise = "promise 26";
+        about = "promise 26";
         PackWeeks x = new PackWeeks();
         int[] least = {0, 0, 1, 2, 2, 3, 3, 3, 3, 4};
         int[] first = {0, -1, 1, 1, 2, 1, 2, 3, 4, 1};
@@ -874,7 +789,7 @@ public final class PackWeeksPromises {
     }
 
     private static void code() {
-        promise = "promise 27";
+        about = "promise 27";
         PackWeeks none = new PackWeeks();
         due("code(-1) without signs", none.code(-1), -2);
         due("code(0) without signs", none.code(0), -2);
@@ -910,7 +825,7 @@ public final class PackWeeksPromises {
     }
 
     private static void carry() {
-        promise = "promise 28";
+        about = "promise 28";
         due("carry(0) of none", new PackWeeks().carry(0), 0);
         due("carry(1) of none", new PackWeeks().carry(1), -1);
         due("carry(2)", new PackWeeks().carry(2), -2);
@@ -937,7 +852,7 @@ public final class PackWeeksPromises {
     }
 
     private static void months() {
-        promise = "promise 29";
+        about = "promise 29";
         due("months of nothing", new PackWeeks().months(0, 100, 0), 0);
         PackWeeks x = of("grid 2 2 ; thing s ship at 0 0 ; thing t ship at 0 0 ; crew s men 4 biscuit 10 ; crew t men 1 biscuit 3 ;");
         due("months(5, 1, 1)", x.months(5, 1, 1), 5);
@@ -969,7 +884,7 @@ public final class PackWeeksPromises {
     }
 
     private static void mark() {
-        promise = "promise 30";
+        about = "promise 30";
         PackWeeks x = of(SHIPS);
         due("mark(4, false)", x.mark(4, false), false);
         due("mark(-1, false)", x.mark(-1, false), false);
@@ -1005,7 +920,7 @@ public final class PackWeeksPromises {
     }
 
     private static void count() {
-        promise = "promise 31";
+        about = "promise 31";
         PackWeeks x = of("grid 7 3 ; thing s ship at 0 0 ; thing h hut at 1 0 ; thing b bear at 1 1 ; lead 0 0 round 2 from 0 for 1 ; lead 0 1 round 2 from 0 for 1 ; "
                 + "crew s men 1 biscuit 5 ; gap g opens 1 nips 1 ; gap i opens 1 nips 1 ; gap j opens 1 nips 1 ; gap k opens 1 nips 1 ; "
                 + "sign l often 1 ; sign m often 2 ; sign n often 3 ; sign o often 3 ; sign p often 3 ; "
@@ -1063,9 +978,6 @@ public final class PackWeeksPromises {
         months();
         mark();
         count();
-        System.out.println(asked + " answers asked, " + wrong + " not as due");
-        if (wrong != 0) {
-            System.exit(1);
-        }
+        finish();
     }
 }
