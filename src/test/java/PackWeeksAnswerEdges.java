@@ -578,6 +578,17 @@ public final class PackWeeksAnswerEdges extends Asking {
         due("the most often", ways.code(0), 1);
         due("the second", ways.code(1), 3);
         due("the third", ways.code(2), 4);
+        // 2 2 4 5 or 2 3 3 4, told from the least often on: 25, and 17 of pairs, either way
+        PackWeeks four = of("grid 2 2;sign a often 1;sign b often 2;sign c often 3;sign d often 3;");
+        int[] rows = {5, 4, 2, 2};
+        PackWeeks pairs = of("grid 2 2;sign a often 1;sign b often 2;sign c often 1;sign d often 2;");
+        int[] pairRows = {4, 2, 5, 2};
+        due("together", four.code(-1), 25);
+        due("together", pairs.code(-1), 17);
+        for (int sign = 0; sign < 4; sign++) {
+            due("code(" + sign + ")", four.code(sign), rows[sign]);
+            due("code(" + sign + ") of pairs", pairs.code(sign), pairRows[sign]);
+        }
         PackWeeks less = of("grid 2 2;sign a often 3;sign b often 2;sign c often 2;");
         due("a little less often", less.code(0), 2);
     }

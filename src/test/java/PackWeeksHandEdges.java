@@ -547,13 +547,25 @@ public final class PackWeeksHandEdges extends Asking {
         due("the same anew", pack(y, after), 0);
         due("all of it", picture(y), picture(of(after)));
         PackWeeks turns = new PackWeeks();
-        String[] packs = {before, after, "grid 8 8;drift 7 north 0 7;drift 0 south 0 7;", "grid 2 2;", before, "grid 2 2;load l worth 9 takes 2;", after, after};
+        String loads = "grid 2 2;load l worth 9 takes 2;" + times(5, "load # worth 4 takes 1;");
+        String[] packs = {before, after, "grid 2 2;load l worth 9 takes 2;", "grid 8 8;drift 7 north 0 7;drift 0 south 0 7;", loads, "grid 2 2;", before, loads, after, after};
         for (String text : packs) {
             due("by turns", pack(turns, text), 0);
             due("hauled", turns.haul(0, turns.count(4) > 0 ? turns.crew(0, 5) ^ 1 : 0, turns.count(4) > 0 ? turns.crew(0, 6) : 0), turns.count(4) > 0);
         }
         due("pack", pack(turns, after), 0);
         due("all of it", picture(turns), picture(of(after)));
+        PackWeeks asked = new PackWeeks();
+        for (String text : packs) {
+            PackWeeks fresh = of(text);
+            pack(asked, text);
+            for (int what = 0; what < 2; what++) {
+                due("carry(" + what + ") of " + text, asked.carry(what), fresh.carry(what));
+                due("lost(9, " + what + ") of " + text, asked.lost(9, what), fresh.lost(9, what));
+                due("through(" + what + ", 9) of " + text, asked.through(what, 9), fresh.through(what, 9));
+                due("code(" + what + ") of " + text, asked.code(what), fresh.code(what));
+            }
+        }
         for (int i = 0; i + 1 < packs.length; i++) {
             PackWeeks second = new PackWeeks();
             for (int k = 0; k <= i; k++) {
